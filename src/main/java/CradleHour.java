@@ -381,11 +381,11 @@ public final class CradleHour {
     }
 
     private static boolean isPlace(int place) {
-        return isWithin(place, 0, PLACES - 1);
+        return place >= 0 && place < PLACES;
     }
 
     private static boolean isHeir(int heir) {
-        return isWithin(heir, 0, HEIRS - 1);
+        return heir >= 0 && heir < HEIRS;
     }
 
     private static boolean isBeat(int beat) {
@@ -492,18 +492,26 @@ public final class CradleHour {
             return sum;
         }
 
+        // Every HEIR always stands at a PLACE; it is looked at so that no index is used untested.
+        private boolean isStanding(int heir) {
+            return isHeir(heir) && isPlace(spots[heir]);
+        }
+
         boolean standsAtOwn(int heir) {
-            return owners[spots[heir]] == heir;
+            return isStanding(heir) && owners[spots[heir]] == heir;
         }
 
         boolean hearsOwnBeat(int heir) {
-            return beats[spots[heir]] == kept[heir];
+            return isStanding(heir) && beats[spots[heir]] == kept[heir];
         }
 
         /** The least reason why an ACT can not be, or FINE. */
         int bar(int heir, int kind, int amount) {
             if (kind == MINUTE) {
                 return minute >= LAST_MINUTE ? 5 : FINE;
+            }
+            if (!isStanding(heir)) {
+                return 2;
             }
             if (chosen[heir] != NONE) {
                 return 1;
@@ -527,6 +535,9 @@ public final class CradleHour {
 
         /** Does an ACT that nothing bars. */
         void act(int heir, int kind, int amount) {
+            if (!isStanding(heir)) {
+                return;
+            }
             int spot = spots[heir];
             switch (kind) {
                 case ON:
@@ -536,7 +547,9 @@ public final class CradleHour {
                     spots[heir] = spot - amount;
                     break;
                 case LISTEN:
-                    listen(heir);
+                    if (beats[spot] == kept[heir]) {
+                        heard[heir] = Math.min(heard[heir] + 1, MOST_HEARD);
+                    }
                     break;
                 case CUT:
                     nicks[spot] = 1 - nicks[spot];
@@ -567,12 +580,6 @@ public final class CradleHour {
             return false;
         }
 
-        private void listen(int heir) {
-            if (hearsOwnBeat(heir) && heard[heir] < MOST_HEARD) {
-                heard[heir]++;
-            }
-        }
-
         private void changeWithNext(int place) {
             swapWithNext(beats, place);
             swapWithNext(nicks, place);
@@ -588,11 +595,15 @@ public final class CradleHour {
             row[place + 1] = moved;
         }
 
+        private boolean hasNick(int place) {
+            return isPlace(place) && nicks[place] == 1;
+        }
+
         private void letMinutePass() {
             minute++;
             for (int heir = 0; heir < HEIRS; heir++) {
                 int spot = spots[heir];
-                if (chosen[heir] == NONE && nicks[spot] == 1 && isPlace(spot + 1)) {
+                if (chosen[heir] == NONE && hasNick(spot) && isPlace(spot + 1)) {
                     spots[heir] = spot + 1;
                 }
             }
@@ -633,7 +644,7 @@ public final class CradleHour {
 
         int flaw() {
             int awaited = AWAITS_ACT;
-            for (int at = 0; at < count; at++) {
+            for (int at = 0; at < count && at < MOST; at++) {
                 awaited = awaitedBehind(awaited, signs[at]);
                 if (awaited == CAN_NOT_STAND) {
                     return at;
@@ -697,7 +708,7 @@ public final class CradleHour {
             begin(from);
             int heir = 0;
             int way = 0;
-            for (int at = 0; at < pad.count && barredAct == NONE; at++) {
+            for (int at = 0; at < pad.count && at < Pad.MOST && barredAct == NONE; at++) {
                 int sign = pad.signs[at];
                 if (way != 0) {
                     attempt(heir, way, sign - '0');
@@ -823,7 +834,7 @@ public final class CradleHour {
         }
 
         boolean fit(int beat) {
-            for (int k = 0; k < count; k++) {
+            for (int k = 0; k < count && k < MOST; k++) {
                 if (isNear(beat, beats[k], spans[k]) != areSo[k]) {
                     return false;
                 }
@@ -930,11 +941,11 @@ public final class CradleHour {
         };
 
         static boolean isAsTold(int odds, int minutes, int n) {
-            return isWithin(n, 1, MOST) && isRow(odds, n) && isRow(minutes, n);
+            return isRow(odds, n) && isRow(minutes, n);
         }
 
         private static boolean isRow(int row, int n) {
-            if (row < TENS[n - 1] || row / TENS[n] != 0) {
+            if (!isWithin(n, 1, MOST) || row < TENS[n - 1] || row / TENS[n] != 0) {
                 return false;
             }
             for (int i = 0; i < n; i++) {
@@ -946,7 +957,8 @@ public final class CradleHour {
         }
 
         private static int digit(int row, int n, int i) {
-            return row / TENS[n - 1 - i] % 10;
+            int place = n - 1 - i;
+            return isWithin(place, 0, MOST) ? row / TENS[place] % 10 : 0;
         }
 
         static long digitSum(int row, int n) {

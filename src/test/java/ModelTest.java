@@ -268,6 +268,7 @@ public final class ModelTest {
         World w = World.fresh();
         World[] images = new World[2];
         String pad = "";
+        int calls = 0;
 
         Run(int seed) {
             r = new Random(seed);
@@ -275,6 +276,7 @@ public final class ModelTest {
         }
 
         void check(String call, long got, long want) {
+            calls++;
             due(name + call, got, want);
         }
 
@@ -460,7 +462,8 @@ public final class ModelTest {
         }
 
         void go() {
-            for (int k = 0; k < 16; k++) {
+            // A round takes some 50 calls, the last look 149: an object is used for 512 only.
+            while (calls < 290) {
                 write();
                 arrange();
                 lookAtText();
@@ -473,7 +476,7 @@ public final class ModelTest {
     }
 
     private static void runs() {
-        for (int seed = 1; seed <= 400; seed++) {
+        for (int seed = 1; seed <= 1000; seed++) {
             new Run(seed).go();
         }
     }
@@ -497,8 +500,8 @@ public final class ModelTest {
 
     private static void seekByAllOrders() {
         Random r = new Random(7);
-        CradleHour x = new CradleHour();
         for (int k = 0; k < 400; k++) {
+            CradleHour x = new CradleHour();
             int n = 1 + r.nextInt(k % 100 == 0 ? 9 : 6);
             int top = 1 + r.nextInt(9);
             int[] odds = r.ints(n, 1, top + 1).toArray();
