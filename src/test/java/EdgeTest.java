@@ -18,6 +18,7 @@ public final class EdgeTest {
         goesBackToTheFirstPlace();
         listensUpToNinetyNine();
         hearsOnlyWhatHeHasKept();
+        hearsOnlyWhenHeListens();
         nickIsCutOrGone();
         beatItHasAlready();
         changesUpToTheLastPlace();
@@ -41,10 +42,12 @@ public final class EdgeTest {
         seekEqualChances();
         mixComesRound();
         risesAtTheEnds();
+        risesOfTheEndsOfBeats();
         risesIsOfNow();
         sightsEightAtMost();
         sightsThatNothingFits();
         askOfOne();
+        askOfTheHighestBeats();
         passTies();
         hourGoes();
         hourNicks();
@@ -53,6 +56,7 @@ public final class EdgeTest {
         hourChanges();
         hourDoesNothing();
         imageHoldsAllButThePad();
+        imageHoldsEachSight();
         imageIsKeptAnew();
         imagesAreTwo();
         theLastCall();
@@ -252,6 +256,15 @@ public final class EdgeTest {
                 due("KEPT " + kept + ", BEAT " + beat, x.judge(2), kept == beat ? 1 : 0);
             }
         }
+    }
+
+    private static void hearsOnlyWhenHeListens() {
+        CradleHour x = new CradleHour();
+        x.heir(0, 4, 5);
+        done(x, "A>9A<9A*A*A~A~A1A5.A!");
+        due("told(30): HEARD without listening", x.told(30), 0);
+        due("told(40)", x.told(40), 4);
+        due("told(3): one minute", x.told(3), 1);
     }
 
     private static void nickIsCutOrGone() {
@@ -576,6 +589,20 @@ public final class EdgeTest {
         due("rises(32, 1): from PLACE 32 on", x.rises(32, 1), 38);
     }
 
+    private static void risesOfTheEndsOfBeats() {
+        for (int beat = 1; beat <= 9; beat += 8) {
+            CradleHour x = new CradleHour();
+            for (int p = 0; p < 40; p++) {
+                x.cradle(p, beat, 0, -1);
+            }
+            due("rises(0, 0), all " + beat, x.rises(0, 0), 40);
+            due("rises(0, 1), all " + beat, x.rises(0, 1), 0);
+            x.cradle(0, 10 - beat, 0, -1);
+            due("rises(0, 0), the first one " + (10 - beat), x.rises(0, 0), beat == 9 ? 40 : 39);
+            due("rises(0, 1)", x.rises(0, 1), beat == 9 ? 0 : 1);
+        }
+    }
+
     private static void risesIsOfNow() {
         CradleHour x = new CradleHour();
         x.heir(0, 38, 5);
@@ -634,6 +661,20 @@ public final class EdgeTest {
         x.cradle(39, 5, 0, -1);
         due("ask(0), two alike", x.ask(0), 10);
         due("ask(1), two alike", x.ask(1), 2);
+    }
+
+    private static void askOfTheHighestBeats() {
+        CradleHour x = new CradleHour();
+        for (int p = 0; p < 40; p++) {
+            x.cradle(p, p < 10 ? 7 : p < 30 ? 8 : 9, 0, -1);
+        }
+        due("ask(0): whether it is 8", x.ask(0), 80);
+        due("ask(1)", x.ask(1), 20);
+        for (int p = 0; p < 40; p++) {
+            x.cradle(p, p < 10 ? 1 : p < 30 ? 5 : 9, 0, -1);
+        }
+        due("ask(0): whether it is 3 to 5", x.ask(0), 41);
+        due("ask(1)", x.ask(1), 20);
     }
 
     private static void passTies() {
@@ -805,6 +846,39 @@ public final class EdgeTest {
         due("CHOSEN", x.told(40), 39);
         due("BEAT, NICK", x.told(139) * 10 + x.told(239), 41);
         due("whose", x.told(339), NONE);
+    }
+
+    private static void imageHoldsEachSight() {
+        for (int count = 1; count <= 8; count++) {
+            CradleHour x = new CradleHour();
+            for (int k = 1; k <= count; k++) {
+                x.like(k, 0, false);
+            }
+            x.image(1);
+            int left = x.own(-1);
+            due("own(-1), " + count + " SIGHTS", left, 40 - 4 * count - Math.min(count, 4));
+            x.forget();
+            for (int k = 1; k <= 8; k++) {
+                x.like(9, 8, true);
+            }
+            due("own(-1), others", x.own(-1), 40);
+            x.restore(1);
+            due("own(-1), restored", x.own(-1), left);
+            due("own(0), restored", x.own(0), count);
+            due("told(4), restored", x.told(4), count);
+        }
+        CradleHour x = new CradleHour();
+        x.like(5, 1, true);
+        x.image(0);
+        x.forget();
+        x.like(5, 2, false);
+        x.restore(0);
+        due("own(-1): b, d and whether, BEATS 4 to 6", x.own(-1), 13);
+        due("own(0)", x.own(0), 3);
+        x.forget();
+        x.like(5, 2, true);
+        x.restore(0);
+        due("own(-1): d", x.own(-1), 13);
     }
 
     private static void imageIsKeptAnew() {
