@@ -11,7 +11,7 @@ import java.util.Random;
 import java.util.TreeSet;
 import java.util.regex.Pattern;
 
-/** The public face and no more of it, the words that LANGUAGE.md leaves out, and that no arguments make a call throw. */
+/** The public face and no more of it, rules of LANGUAGE.md that can be looked up, and that no arguments make a call throw. */
 public final class FaceTest {
     private static final Checks C = new Checks("FaceTest");
     private static final String[] METHODS = {
@@ -25,6 +25,7 @@ public final class FaceTest {
     public static void main(String[] args) throws Exception {
         members();
         constants();
+        rules();
         words();
         noCallThrows();
         C.finish();
@@ -80,6 +81,36 @@ public final class FaceTest {
         }
         want.add("long GONE -1000000000000000000 public static final");
         same("constants", open, want);
+    }
+
+    /** Of every class in the file: names of methods, parameters, fields, static state, how many there are. */
+    private static void rules() {
+        TreeSet<String> face = new TreeSet<>();
+        for (Method m : CradleHour.class.getMethods()) {
+            if (m.getDeclaringClass() == CradleHour.class) {
+                face.add(m.getName());
+            }
+        }
+        List<Class<?>> classes = new ArrayList<>(Arrays.asList(CradleHour.class.getDeclaredClasses()));
+        classes.add(CradleHour.class);
+        C.due("more than twelve classes: " + classes.size(), classes.size() > 12 ? 1 : 0, 0);
+        for (Class<?> type : classes) {
+            String name = type.getSimpleName();
+            C.due("classes inside " + name, type == CradleHour.class ? 0 : type.getDeclaredClasses().length, 0);
+            for (Method m : type.getDeclaredMethods()) {
+                C.due(name + "." + m.getName() + ": parameters beyond seven", Math.max(0, m.getParameterCount() - 7), 0);
+                boolean hidden = !Modifier.isPublic(m.getModifiers());
+                C.due(name + "." + m.getName() + " is named as a public one", hidden && face.contains(m.getName()) ? 1 : 0, 0);
+            }
+            int fields = 0;
+            for (Field f : type.getDeclaredFields()) {
+                boolean shared = Modifier.isStatic(f.getModifiers());
+                fields += shared ? 0 : 1;
+                C.due(name + "." + f.getName() + ": static and not final",
+                    shared && !Modifier.isFinal(f.getModifiers()) ? 1 : 0, 0);
+            }
+            C.due(name + ": fields beyond twenty", Math.max(0, fields - 20), 0);
+        }
     }
 
     private static void words() throws Exception {

@@ -185,6 +185,12 @@ public final class RefusalTest {
         beyond("seek(1, #, 1, 1)", 1, 9, GONE_OUTSIDE, (x, n) -> x.seek(1, n, 1, 1));
         beyond("looks(#, 1, 1)", 1, 9, OUTSIDE, (x, n) -> x.looks(n, 1, 1));
         beyond("looks(1, #, 1)", 1, 9, OUTSIDE, (x, n) -> x.looks(1, n, 1));
+        // Rows of ten digits, as many as n says: it is n that is not as told.
+        for (int part = 0; part <= 1; part++) {
+            int p = part;
+            refused(ALL, "seek, ten digits, " + p, GONE_OUTSIDE, x -> x.seek(1111111111, 2111111111, 10, p));
+        }
+        refused(ALL, "looks, ten digits", OUTSIDE, x -> x.looks(1111111111, 2111111111, 10));
     }
 
     /** A row that is refused as the odds and as the minutes, the other row being as told. */
